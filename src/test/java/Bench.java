@@ -12,7 +12,7 @@ final class Bench {
         checked++;
         if (got != want) {
             wrong++;
-            if (wrong <= 40) {
+            if (wrong <= 20) {
                 System.out.println(call + " answered " + got + ", due is " + want);
             }
         }
