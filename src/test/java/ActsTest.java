@@ -88,6 +88,16 @@ public final class ActsTest {
         Bench.due("chance(40), always", always.chance(40), 40);
         GreyRoute without = Bench.made(TOWN);
         Bench.due("chance(40), hot not told", without.chance(40), 0);
+        int least = 0;
+        while (next(least) / 64 % 100 != 0) {
+            least++;
+        }
+        GreyRoute cold = Bench.made(TOWN);
+        cold.seed(least);
+        Bench.due("chance(1), a DRAW of 0, hot not told", cold.chance(1), 0);
+        GreyRoute mild = Bench.made(TOWN + "hot 1;");
+        mild.seed(least);
+        Bench.due("chance(1), a DRAW of 0, hot 1", mild.chance(1), 1);
         int s = 1;
         for (int i = 0; i < 40; i++) {
             s = next(s);

@@ -92,9 +92,13 @@ public final class AheadTest {
         GreyRoute y = Bench.made(town);
         y.shut(0, 1);
         Bench.due("held(), gone round, without clever", y.held(), 1);
-        // the same PLACES, but other minutes: the LOOP that is left out and the way round are like
-        GreyRoute z = Bench.made("place a;place b;place c;street a to b paces 1;street b to c paces 1;street a to c paces 9;"
-            + "step a for 3;step b for 0;step c for 0;clever year<39;");
+        // as many STEPS as ahead, but not the same: two by the way round more, two of a LOOP less
+        GreyRoute z = Bench.made("place a;place b;place c;place d;street a to b paces 1;street a to d paces 1;street d to c paces 1;"
+            + "street c to b paces 1;step a for 0;step d for 0;step a for 0;step b for 0;clever all;");
+        z.shut(0, 1);
+        Bench.due("held(), as many STEPS", z.held(), 1);
+        z.years(1);
+        Bench.dueText("the ROUTE behind it", Bench.route(z), "0:0 3:0 2:0 1:0");
         Bench.due("held()", z.held(), 0);
     }
 

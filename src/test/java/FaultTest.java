@@ -8,6 +8,7 @@ public final class FaultTest {
         townsWithoutFault();
         firstBytes();
         endsTooSoon();
+        cutByAnEnd();
         lengths();
         sidesBySide();
         names();
@@ -174,6 +175,46 @@ public final class FaultTest {
         fault(1, "clever all or^");
     }
 
+    /** Each place at which a STATEMENT may end too soon, though the next one begins well. */
+    private static void cutByAnEnd() {
+        String[] whole = {"place x", "street a to b paces 3", "step a for 1", "thing x at a pull 1", "heat 1", "hot 1",
+            "stands 1 + 2 * ( 3 - 4 ) / min ( 5 , 6 ) % max ( 7 , 8 )", "stands if ( 1 < 2 , 3 , 4 )",
+            "clever not [ 1 < 2 or all ] and 3 = 4 or all and 5 > ( 6 )"};
+        for (int i = 0; i < whole.length; i++) {
+            String[] words = whole[i].split(" ");
+            StringBuilder sofar = new StringBuilder(TWO);
+            for (int k = 0; k < words.length - 1; k++) {
+                sofar.append(words[k]).append(' ');
+                String cut = sofar.toString();
+                GreyRoute x = new GreyRoute();
+                boolean ends = Bench.town(x, cut + ";heat 1;") >= 0;
+                if (!ends) {
+                    fault(1, cut + "^;heat 1;");
+                    fault(1, cut + "^");
+                }
+                boolean mayEnd = isSum(words, k) || isTest(words, k);
+                Bench.due("may it end: " + cut, ends, mayEnd);
+            }
+        }
+    }
+
+    private static boolean isSum(String[] words, int last) {
+        return words[0].equals("stands") && last > 0 && words[1].matches("[0-9]") && words[last].matches("[0-9]|\\)") && closed(words, last);
+    }
+
+    private static boolean isTest(String[] words, int last) {
+        boolean ends = words[last].equals("]") || words[last].equals("all") || words[last].equals("4");
+        return words[0].equals("clever") && ends && closed(words, last);
+    }
+
+    private static boolean closed(String[] words, int last) {
+        int open = 0;
+        for (int i = 0; i <= last; i++) {
+            open += words[i].matches("[(\\[]") ? 1 : words[i].matches("[)\\]]") ? -1 : 0;
+        }
+        return open == 0;
+    }
+
     private static void lengths() {
         fault(1, "place abcdef^g;");
         fault(1, "placea^b;");
@@ -331,6 +372,14 @@ public final class FaultTest {
         fault(5, "stands if(not not not not not not ^not all,1,1);");
         fault(5, "stands if(all,1,((((((^(1))))))));");
         fault(1, "stands 1^((((((((1;");
+        good(1, "stands min(1,((((((1)))))));");
+        fault(5, "stands min(1,((((((^(1))))))));");
+        good(1, "stands max(((((((1)))))),2);");
+        fault(5, "stands max(((((((^(1))))))),2);");
+        good(1, "stands if(all,((((((1)))))),1);");
+        fault(5, "stands if(all,((((((^(1))))))),1);");
+        good(1, "clever not 1<((((((1))))));");
+        fault(5, "clever not 1<((((((^(1)))))));");
     }
 
     private static void tooMany() {
@@ -414,6 +463,20 @@ public final class FaultTest {
         Bench.due("undo() behind a new TOWN", x.undo(), false);
         Bench.due("the refusal of the other town() still counts", x.status(1), 1);
         Bench.due("the latest image() is still there", x.octet(1), 2);
+        for (int i = 0; i < 4; i++) {
+            Bench.due("town() with all", Bench.town(x, ROAD + "step a for 3;step b for 2;stands 9;clever all;heat 3;hot 9;thing t at a pull 1;"), 11);
+            Bench.due("year(1)", x.year(1), 19);
+            if (i != 2) {
+                Bench.due("town() with little", Bench.town(x, "place a;step a for 7;"), 2);
+                Bench.due("year(1), nothing of the other TOWN", x.year(1), 7);
+                Bench.due("has(4), nothing of the other TOWN", x.has(4), 1);
+                Bench.due("has(1), nothing of the other TOWN", x.has(1), 0);
+                Bench.due("town() without STEPS", Bench.town(x, "place b;"), 1);
+                Bench.due("has(4), nothing of the other TOWN", x.has(4), 0);
+                Bench.due("years(1)", x.years(1), 0);
+            }
+        }
+        Bench.due("end(0)", x.end(0), true);
         Bench.due("town() of nothing", x.town(), 0);
         Bench.due("has(0)", x.has(0), 0);
         Bench.due("has(2)", x.has(2), 0);

@@ -21,7 +21,9 @@ public final class HalfTest {
         Bench.due("half(), number 255", Bench.half(x, 255, 0), -1);
         Bench.due("half(), no such PLACE", Bench.half(x, 0, 4), -1);
         Bench.due("half(), the second row", Bench.half(x, 0, 0, 0, 200), -1);
-        Bench.due("status(5)", x.status(5), 7);
+        Bench.due("half(), the second row's number", Bench.half(x, 0, 0, 20, 0), -1);
+        Bench.due("half(), the third row", Bench.half(x, 0, 0, 1, 1, 2, 4), -1);
+        Bench.due("status(5)", x.status(5), 9);
         Bench.due("has(7)", x.has(7), 0);
         int[] rows = new int[42];
         Bench.due("half(), 21 rows", Bench.half(x, rows), -1);
@@ -31,7 +33,7 @@ public final class HalfTest {
         Bench.due("has(7)", x.has(7), 1);
         Bench.due("half(), refused", Bench.half(x, 0, 9), -1);
         Bench.due("has(7), the HALF stays", x.has(7), 1);
-        Bench.due("status(5)", x.status(5), 9);
+        Bench.due("status(5)", x.status(5), 11);
         Bench.due("the tape went", x.feed(0, 0, 0, 0, 0), 20);
         x.end(0);
         // it stays with ACTS and images, and goes with the TOWN
@@ -86,7 +88,10 @@ public final class HalfTest {
         for (int k = 0; k < 4; k++) {
             Bench.due("filling(4, " + k + ")", x.filling(4, k), first[k]);
         }
+        Bench.due("filling(1, 0)", x.filling(1, 0), 0);
+        Bench.due("filling(20, 19)", x.filling(20, 19), 1);
         Bench.due("filling(4, 4)", x.filling(4, 4), -1);
+        Bench.due("filling(4, 5)", x.filling(4, 5), -1);
         Bench.due("filling(4, -1)", x.filling(4, -1), -1);
         Bench.due("filling(0, 0)", x.filling(0, 0), -1);
         Bench.due("filling(21, 0)", x.filling(21, 0), -1);

@@ -8,6 +8,7 @@ public final class ImageTest {
     public static void main(String[] args) {
         written();
         taken();
+        largest();
         refused();
         newObject();
         status();
@@ -77,6 +78,36 @@ public final class ImageTest {
         Bench.due("31 STEPS", Bench.on(x, Bench.sealed(more)), false);
     }
 
+    /** All STREETS, THINGS and STEPS that there can be. */
+    private static void largest() {
+        StringBuilder text = new StringBuilder();
+        for (char c = 'a'; c <= 'h'; c++) {
+            text.append("place ").append(c).append(";thing t").append(c).append(" at ").append(c).append(" pull 1;");
+        }
+        for (char c = 'b'; c <= 'h'; c++) {
+            text.append("street a to ").append(c).append(" paces 1;");
+            text.append("street ").append(c).append(" to ").append(c == 'h' ? 'b' : (char) (c + 1)).append(" paces 1;");
+        }
+        GreyRoute x = Bench.made(text.toString());
+        for (int k = 0; k < 30; k++) {
+            x.teach(k % 8, k);
+        }
+        for (int i = 0; i < 14; i++) {
+            x.shut(i, 1);
+        }
+        Bench.due("image(), the largest", x.image(), 2 + 14 + 8 + 1 + 60 + 1);
+        int[] image = Bench.image(x);
+        Bench.due("octet(15)", image[15], 1);
+        Bench.due("octet(23)", image[23], 7);
+        Bench.due("octet(24)", image[24], 30);
+        Bench.due("octet(84)", image[84], 29);
+        Bench.dueText("its last byte", Arrays.toString(Bench.sealed(Arrays.copyOf(image, 85))), Arrays.toString(image));
+        GreyRoute y = Bench.made(text.toString());
+        Bench.due("on(), the largest", Bench.on(y, image), true);
+        Bench.dueText("the same", Arrays.toString(Bench.image(y)), Arrays.toString(image));
+        Bench.due("has(5)", y.has(5), 14);
+    }
+
     private static void no(GreyRoute x, String why, int... image) {
         int before = x.status(5);
         int[] was = Bench.image(x);
@@ -114,6 +145,8 @@ public final class ImageTest {
         no(x, "fewer STEPS than told", Bench.sealed(0, 0, 0, 0, 0, 2, 2, 0, 0));
         no(x, "more STEPS than told", Bench.sealed(0, 0, 0, 0, 0, 2, 1, 0, 0, 1, 0));
         Bench.due("a SHUT STREET between STEPS", Bench.on(x, Bench.sealed(0, 0, 1, 0, 0, 2, 2, 0, 0, 1, 0)), true);
+        Bench.due("street(0, 3)", x.street(0, 3), 1);
+        Bench.due("street(1, 3)", x.street(1, 3), 0);
     }
 
     private static void newObject() {

@@ -197,6 +197,10 @@ public final class ThisYearTest {
         Bench.dueText("from e by c and f", Bench.gone(x), "4:5@0 2:0@9 5:0@11 0:5@14");
         x.shut(7, 1);
         Bench.dueText("from e by d", Bench.gone(x), "4:5@0 3:0@9 0:5@14");
+        GreyRoute first = Bench.made("place a;place b;place c;place d;street d to b paces 1;street b to a paces 2;street a to d paces 2;"
+            + "street d to c paces 2;street c to b paces 2;step b for 0;step d for 0;");
+        first.shut(0, 1);
+        Bench.dueText("from b by a, the least of all", Bench.gone(first), "1:0@0 0:0@2 3:0@4");
         GreyRoute y = Bench.made(ring + "step a for 5;step e for 5;");
         y.shut(0, 1);
         Bench.dueText("from a by b and c", Bench.gone(y), "0:5@0 1:0@8 2:0@10 4:5@14");
