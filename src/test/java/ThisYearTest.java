@@ -6,6 +6,7 @@ public final class ThisYearTest {
     public static void main(String[] args) {
         sums();
         tests();
+        deepest();
         figures();
         goesRound();
         goesByLeastPlace();
@@ -110,6 +111,22 @@ public final class ThisYearTest {
         holds("heat=20", true);
         holds("year=0", true);
         holds("[1<2]and[2<3]", true);
+    }
+
+    /** As many operands wait for another one as the language allows: a TEST in an if, seven times. */
+    private static void deepest() {
+        for (String last : new String[] {"6", "5"}) {
+            String test = "1=2 or 1=1 and 5<" + last;
+            for (int i = 0; i < 7; i++) {
+                if (i == 6) {
+                    holds(test, last.equals("6"));
+                }
+                test = "1=2 or 1=1 and 5<2+1*if(" + test + ",4,0)";
+            }
+            GreyRoute x = Bench.made("place a;place b;street a to b paces 1;step a for 0;step b for 0;step a for 0;clever " + test + ";");
+            x.years(1);
+            Bench.due("has(4) with seven open", x.has(4), last.equals("6") ? 1 : 3);
+        }
     }
 
     private static void figures() {
