@@ -23,23 +23,11 @@ public final class FaultTest {
     }
 
     private static void fault(int number, String marked) {
-        int at = marked.indexOf('^');
-        String text = marked.substring(0, at) + marked.substring(at + 1);
-        GreyRoute x = new GreyRoute();
-        Bench.due("town() of " + marked, Bench.town(x, text), -1);
-        Bench.due("fault(0) of " + marked, x.fault(0), number);
-        Bench.due("fault(1) of " + marked, x.fault(1), at);
-        Bench.due("status(1) of " + marked, x.status(1), 1);
-        Bench.due("feed() behind " + marked, x.feed(0, 0, 0, 0, 0), 20);
+        Texts.fault(number, marked);
     }
 
     private static void good(int statements, String text) {
-        GreyRoute x = new GreyRoute();
-        Bench.due("town() of " + text, Bench.town(x, text), statements);
-        Bench.due("fault(0) of " + text, x.fault(0), 0);
-        Bench.due("fault(1) of " + text, x.fault(1), -1);
-        Bench.due("status(1) of " + text, x.status(1), 0);
-        Bench.due("feed() behind " + text, x.feed(0, 0, 0, 0, 0), 20);
+        Texts.good(statements, text);
     }
 
     private static void tape() {
@@ -269,9 +257,7 @@ public final class FaultTest {
         fault(3, ROAD + "step a for 1;step b for 1;step a for 1;step ^a for 1");
         fault(3, "place a;thing t at ^b");
         fault(3, "thing t at ^a;place a;");
-        String[] own = {"place", "street", "to", "paces", "step", "for", "thing", "at", "pull", "stands", "clever", "heat",
-            "hot", "year", "told", "been", "steps", "time", "loops", "if", "or", "and", "not", "all", "min", "max"};
-        for (String word : own) {
+        for (String word : Texts.OWN_WORDS) {
             fault(1, "place ^" + word + ";");
             fault(1, "place a;thing ^" + word + " at a pull 1;");
             fault(1, "place a;thing t at ^" + word + " pull 1;");

@@ -108,7 +108,9 @@ public final class ImageTest {
         Bench.due("has(5)", y.has(5), 14);
     }
 
-    private static void no(GreyRoute x, String why, int... image) {
+    private static void no(String why, int... image) {
+        GreyRoute x = Bench.made(TOWN);
+        x.years(2);
         int before = x.status(5);
         int[] was = Bench.image(x);
         Bench.due("on(): " + why, Bench.on(x, image), false);
@@ -120,30 +122,29 @@ public final class ImageTest {
     }
 
     private static void refused() {
-        GreyRoute x = Bench.made(TOWN);
-        x.years(2);
-        no(x, "nothing");
-        no(x, "a byte", 197);
+        no("nothing");
+        no("a byte", 197);
         int[] good = {0, 0, 0, 0, 0, 2, 2, 0, 1, 1, 30};
         int[] sealed = Bench.sealed(good);
         for (int i = 0; i < sealed.length; i++) {
-            no(x, "cut at " + i, Arrays.copyOf(sealed, i));
+            no("cut at " + i, Arrays.copyOf(sealed, i));
             int[] other = sealed.clone();
             other[i] = other[i] + 1 & 255;
-            no(x, "another byte " + i, other);
+            no("another byte " + i, other);
         }
-        no(x, "a byte more", Arrays.copyOf(sealed, sealed.length + 1));
-        no(x, "YEAR 1000", Bench.sealed(3, 232, 0, 0, 0, 2, 0));
-        no(x, "YEAR 65535", Bench.sealed(255, 255, 0, 0, 0, 2, 0));
-        no(x, "a STREET that is 2", Bench.sealed(0, 0, 2, 0, 0, 2, 0));
-        no(x, "a STREET that is 255", Bench.sealed(0, 0, 0, 255, 0, 2, 0));
-        no(x, "a THING nowhere", Bench.sealed(0, 0, 0, 0, 0, 3, 0));
-        no(x, "a STEP nowhere", Bench.sealed(0, 0, 0, 0, 0, 2, 1, 3, 0));
-        no(x, "31 minutes", Bench.sealed(0, 0, 0, 0, 0, 2, 1, 1, 31));
-        no(x, "no STREET", Bench.sealed(0, 0, 0, 0, 0, 2, 2, 0, 0, 2, 0));
-        no(x, "the same PLACE", Bench.sealed(0, 0, 0, 0, 0, 2, 2, 1, 0, 1, 0));
-        no(x, "fewer STEPS than told", Bench.sealed(0, 0, 0, 0, 0, 2, 2, 0, 0));
-        no(x, "more STEPS than told", Bench.sealed(0, 0, 0, 0, 0, 2, 1, 0, 0, 1, 0));
+        no("a byte more", Arrays.copyOf(sealed, sealed.length + 1));
+        no("YEAR 1000", Bench.sealed(3, 232, 0, 0, 0, 2, 0));
+        no("YEAR 65535", Bench.sealed(255, 255, 0, 0, 0, 2, 0));
+        no("a STREET that is 2", Bench.sealed(0, 0, 2, 0, 0, 2, 0));
+        no("a STREET that is 255", Bench.sealed(0, 0, 0, 255, 0, 2, 0));
+        no("a THING nowhere", Bench.sealed(0, 0, 0, 0, 0, 3, 0));
+        no("a STEP nowhere", Bench.sealed(0, 0, 0, 0, 0, 2, 1, 3, 0));
+        no("31 minutes", Bench.sealed(0, 0, 0, 0, 0, 2, 1, 1, 31));
+        no("no STREET", Bench.sealed(0, 0, 0, 0, 0, 2, 2, 0, 0, 2, 0));
+        no("the same PLACE", Bench.sealed(0, 0, 0, 0, 0, 2, 2, 1, 0, 1, 0));
+        no("fewer STEPS than told", Bench.sealed(0, 0, 0, 0, 0, 2, 2, 0, 0));
+        no("more STEPS than told", Bench.sealed(0, 0, 0, 0, 0, 2, 1, 0, 0, 1, 0));
+        GreyRoute x = Bench.made(TOWN);
         Bench.due("a SHUT STREET between STEPS", Bench.on(x, Bench.sealed(0, 0, 1, 0, 0, 2, 2, 0, 0, 1, 0)), true);
         Bench.due("street(0, 3)", x.street(0, 3), 1);
         Bench.due("street(1, 3)", x.street(1, 3), 0);

@@ -4,7 +4,8 @@ import java.util.Random;
 /** No call ever throws, and none takes room beyond what the constructor took: whatever is asked, in whatever state. */
 public final class RoomTest {
     private static final int RUNS = 200;
-    private static final int CALLS = 512;
+    /** With those that put the TOWN on the tape, an object's 512. */
+    private static final int CALLS = 420;
     /** A run may hold some 7.3 million fields and elements; one object must be a small part of that. */
     private static final long MOST_BYTES = 80_000;
 
