@@ -212,6 +212,8 @@ public final class EdgesOfActsTest {
             Bench.due("shut(" + i + ", 0), it is so already", x.shut(i, 0), false);
             Bench.due("shut(" + i + ", 1)", x.shut(i, 1), true);
             Bench.due("shut(" + i + ", 1), it is so already", x.shut(i, 1), false);
+            Bench.due("street(" + i + ", 3)", x.street(i, 3), 1);
+            Bench.due("street(" + (i + 1) + ", 3)", x.street(i + 1, 3), i < 13 ? 0 : -1);
             Bench.due("has(5)", x.has(5), i + 1);
         }
         Bench.due("shut(14, 1)", x.shut(14, 1), false);

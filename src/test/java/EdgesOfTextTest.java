@@ -32,6 +32,7 @@ public final class EdgesOfTextTest {
         atTheTextsLength();
         faultOfTheLatest();
         townWithoutFault();
+        townBehindTown();
         Bench.finish();
     }
 
@@ -306,8 +307,10 @@ public final class EdgesOfTextTest {
         GreyRoute x = Bench.made("place a;step a for 0;stands heat;heat 33;");
         Bench.due("a faulty TOWN", Bench.town(x, "heat 7;heat 41;"), -1);
         Bench.due("heat stays", x.goes(0, 1), 33);
-        Bench.town(x, "place a;step a for 0;stands heat;");
-        Bench.due("heat of a new TOWN without one", x.goes(0, 1), 20);
+        for (int i = 0; i < 3; i++) {
+            Bench.town(x, "place a;step a for 0;stands heat;");
+            Bench.due("heat of a new TOWN without one", x.goes(0, 1), 20);
+        }
     }
 
     /** "hot N (0 .. 100): the last one of each counts (.. 0 without)". */
@@ -324,8 +327,10 @@ public final class EdgesOfTextTest {
         Bench.due("the last hot is 0", Bench.made("hot 100;hot 0;").chance(40), 0);
         Bench.due("the last hot is 100", Bench.made("hot 0;hot 100;").chance(40), 40);
         GreyRoute x = Bench.made("hot 100;");
-        Bench.town(x, "heat 1;");
-        Bench.due("hot of a new TOWN without one", x.chance(40), 0);
+        for (int i = 0; i < 3; i++) {
+            Bench.town(x, "heat 1;");
+            Bench.due("hot of a new TOWN without one", x.chance(40), 0);
+        }
     }
 
     /** "NAMES: 1 to 6 letters"; "a 7th letter .. at itself, whatever may stand there". */
@@ -573,6 +578,46 @@ public final class EdgesOfTextTest {
             }
             Bench.due("has(9)", x.has(9), seed);
             Bench.due("undo()", x.undo(), false);
+        }
+    }
+
+    /** Nothing of a TOWN, good or faulty, is in the ones behind it; the longest text can be told again and again. */
+    private static void townBehindTown() {
+        StringBuilder longest = new StringBuilder("place a;step a for 0;stands 1");
+        while (longest.length() + 2 < 1600) {
+            longest.append("-0");
+        }
+        longest.append(';');
+        while (longest.length() < 1600) {
+            longest.append(' ');
+        }
+        GreyRoute x = new GreyRoute();
+        for (int i = 0; i < 5; i++) {
+            Bench.due("town() of the longest text", Bench.town(x, longest.toString()), 3);
+            Bench.due("goes(0, 1)", x.goes(0, 1), 1);
+        }
+        String all = ROAD + Texts.steps(3, "a", "b", 5) + "thing t at a pull 3;stands told+pull;clever all;heat 7;hot 100;";
+        String[] little = {"", "place a;", "place a;step a for 9;", TWO + "step b for 4;thing u at b pull 2;", "stands 3;", "clever not all;"};
+        GreyRoute y = new GreyRoute();
+        for (String text : little) {
+            Bench.town(y, all);
+            Bench.due("year(1) of all", y.year(1), 8 + 1 + 5 + 1 + 8);
+            Bench.due("held() of all", y.held(), 1);
+            Bench.due("chance(1) of all", y.chance(1), 1);
+            Bench.town(y, all + "heat 41;");
+            Bench.town(y, text);
+            GreyRoute z = Bench.made(text);
+            y.seed(z.has(9));
+            for (int i = 0; i < 6; i++) {
+                Bench.due("has(" + i + ") of " + text, y.has(i), z.has(i));
+            }
+            for (int i = 0; i < 4; i++) {
+                Bench.due("year(" + i + ") of " + text, y.year(i), z.year(i));
+            }
+            Bench.due("goes(0, 1) of " + text, y.goes(0, 1), z.goes(0, 1));
+            Bench.due("chance(5) of " + text, y.chance(5), 0);
+            Bench.due("way(0, 1) of " + text, y.way(0, 1), -1);
+            Bench.due("filled(2) of " + text, y.filled(2), 0);
         }
     }
 }

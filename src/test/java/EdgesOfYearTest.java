@@ -1,4 +1,4 @@
-/** Terms I (SUMS) and II, promises 6 to 20: for each sentence that names an edge a test of its own. */
+/** Terms I (SUMS) and II, promises 6 to 13: for each sentence that names an edge a test of its own. */
 public final class EdgesOfYearTest {
     private static final String SQUARE = "place a;place b;place c;place d;street a to b paces 10;street b to c paces 5;"
         + "street c to d paces 7;street d to a paces 3;";
@@ -9,6 +9,7 @@ public final class EdgesOfYearTest {
         wholePartsAndWhatIsLeft();
         byNought();
         allFromTheLeft();
+        lesserGreaterAndIf();
         testsAtTheirEdges();
         standFrom0To60();
         figuresOfAStep();
@@ -101,17 +102,44 @@ public final class EdgesOfYearTest {
         value("20-2*3-4/2", 12);
     }
 
+    /** "min ( SUM , SUM ) ; max ( SUM , SUM ) ; if ( TEST , SUM , SUM ) (the first SUM where the TEST holds, else the second one)". */
+    private static void lesserGreaterAndIf() {
+        for (int a = -1; a <= 1; a++) {
+            for (int b = -1; b <= 1; b++) {
+                value("min(" + told(a) + "," + told(b) + ")", Math.min(a, b));
+                value("max(" + told(a) + "," + told(b) + ")", Math.max(a, b));
+                value("if(" + told(a) + "<" + told(b) + "," + told(a) + ",9)", a < b ? a : 9);
+                value("if(" + told(a) + "=" + told(b) + ",9," + told(b) + ")", a == b ? 9 : b);
+            }
+        }
+        // the SUM that does not count may be anything
+        value("if(all,1,1/0)", 1);
+        value("if(not all,9999*9999,2)", 2);
+        value("min(1,2)+max(3,4)*if(all,5,6)", 21);
+    }
+
     private static void holds(String test, boolean want) {
         GreyRoute x = Bench.made("place a;step a for 0;stands if(" + test + ",7,8);");
         Bench.due("does " + test + " hold (7 or 8)", x.goes(0, 1), want ? 7 : 8);
     }
 
+    /** The FACT alone, and joined to others. */
+    private static void holdsOrNot(String fact, boolean want) {
+        holds(fact, want);
+        holds("not " + fact, !want);
+        holds("not not " + fact, want);
+        holds(fact + " and all", want);
+        holds("not all or " + fact, want);
+        holds("not[" + fact + " and all]", !want);
+        holds("if(" + fact + ",1,2)=1", want);
+    }
+
     private static void testsAtTheirEdges() {
         for (int a = -2; a <= 2; a++) {
             for (int b = -2; b <= 2; b++) {
-                holds(told(a) + "<" + told(b), a < b);
-                holds(told(a) + ">" + told(b), a > b);
-                holds(told(a) + "=" + told(b), a == b);
+                holdsOrNot(told(a) + "<" + told(b), a < b);
+                holdsOrNot(told(a) + ">" + told(b), a > b);
+                holdsOrNot(told(a) + "=" + told(b), a == b);
             }
         }
         holds("9999*9999=1000*1000", true);

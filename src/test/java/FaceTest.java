@@ -102,8 +102,23 @@ public final class FaceTest {
         while (imports.find()) {
             Bench.due("import " + imports.group(1), imports.group(1).matches("java\\.util\\.(Arrays|ArrayList|List|Iterator)"), true);
         }
+        checkLengths(source.split("\n"));
         Bench.due("signs beyond 127", source.chars().anyMatch(c -> c > 127), false);
         Bench.due("a package line", code.contains("package "), false);
         Bench.due("a text joined by +", code.matches("(?s).*(\"\"\\s*\\+|\\+\\s*\"\").*"), false);
+    }
+
+    /** A method ends at the first closing brace that stands as far in as its head does. */
+    private static void checkLengths(String[] lines) {
+        for (int i = 0; i < lines.length; i++) {
+            boolean isHead = lines[i].matches(" {4,8}[A-Za-z][\\w\\[\\] ]*\\([^()]*\\) \\{");
+            String end = lines[i].replaceAll("\\S.*", "}");
+            for (int k = i + 1; isHead && k < lines.length; k++) {
+                if (lines[k].equals(end)) {
+                    Bench.due("lines of " + lines[i].trim() + ", more than 60", k - i > 60, false);
+                    break;
+                }
+            }
+        }
     }
 }
