@@ -134,6 +134,7 @@ public final class EdgesOfYearTest {
         holds("if(" + fact + ",1,2)=1", want);
     }
 
+    /** "TEST: BOTH { or BOTH }. BOTH: FACT { and FACT }. FACT: not FACT; [ TEST ] ; all; SUM SIGN SUM, SIGN < or > or =". */
     private static void testsAtTheirEdges() {
         for (int a = -2; a <= 2; a++) {
             for (int b = -2; b <= 2; b++) {
