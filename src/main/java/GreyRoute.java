@@ -757,8 +757,8 @@ public final class GreyRoute {
                 case STREET: return another(town.streetCount < MOST_STREETS) && readStreet();
                 case STEP: return another(town.told.count < MOST_TOLD_STEPS) && readStep();
                 case THING: return another(town.thingCount < MOST_THINGS) && readThing();
-                case STANDS: return another(!town.hasStands()) && readStands();
-                case CLEVER: return another(!town.hasClever()) && readClever();
+                case STANDS: return another(!town.hasStands()) && beginCode(false) && readSum(0) && endCode();
+                case CLEVER: return another(!town.hasClever()) && beginCode(true) && readTest(0) && endCode();
                 case HEAT: return another(true) && readHeat();
                 case HOT: return another(true) && readHot();
                 default: return unfit();
@@ -827,20 +827,19 @@ public final class GreyRoute {
             return pull != NONE && town.addThing(name, place, pull);
         }
 
-        private boolean readStands() {
-            inClever = false;
-            town.standsFrom = town.codeCount;
-            boolean good = readSum(0);
-            town.addCode(Sums.STOP, 0);
-            return good;
+        private boolean beginCode(boolean ofClever) {
+            inClever = ofClever;
+            if (ofClever) {
+                town.cleverFrom = town.codeCount;
+            } else {
+                town.standsFrom = town.codeCount;
+            }
+            return true;
         }
 
-        private boolean readClever() {
-            inClever = true;
-            town.cleverFrom = town.codeCount;
-            boolean good = readTest(0);
+        private boolean endCode() {
             town.addCode(Sums.STOP, 0);
-            return good;
+            return true;
         }
 
         private boolean readHeat() {
@@ -911,17 +910,16 @@ public final class GreyRoute {
             return true;
         }
 
-        /** Goes behind a ( or [ or not, if it may be open beside those that are. */
-        private boolean takeOpening(int open) {
+        /** Goes behind a ( or [ or not, if that is what is here, and it may be open beside those that are. */
+        private boolean takeOpening(boolean isHere, int open) {
+            if (!isHere) {
+                return unfit();
+            }
             if (open >= MOST_OPEN) {
                 return wrong(5, words.start);
             }
             words.advance();
             return true;
-        }
-
-        private boolean takeBracket(int open) {
-            return words.isSign('(') ? takeOpening(open) : unfit();
         }
 
         private boolean readSum(int open) {
@@ -967,7 +965,7 @@ public final class GreyRoute {
                 return true;
             }
             if (words.isSign('(')) {
-                return takeOpening(open) && readSum(open + 1) && takeSign(')');
+                return takeOpening(true, open) && readSum(open + 1) && takeSign(')');
             }
             if (words.kind != Words.OWN) {
                 return unfit();
@@ -1007,7 +1005,7 @@ public final class GreyRoute {
 
         private boolean readOfTwo(int word, int open) {
             words.advance();
-            if (!takeBracket(open) || !readSum(open + 1) || !takeSign(',')) {
+            if (!takeOpening(words.isSign('('), open) || !readSum(open + 1) || !takeSign(',')) {
                 return false;
             }
             if (!readSum(open + 1) || !takeSign(')')) {
@@ -1019,7 +1017,7 @@ public final class GreyRoute {
 
         private boolean readIf(int open) {
             words.advance();
-            if (!takeBracket(open) || !readTest(open + 1) || !takeSign(',')) {
+            if (!takeOpening(words.isSign('('), open) || !readTest(open + 1) || !takeSign(',')) {
                 return false;
             }
             if (!readSum(open + 1) || !takeSign(',') || !readSum(open + 1) || !takeSign(')')) {
@@ -1065,14 +1063,14 @@ public final class GreyRoute {
 
         private boolean readFact(int open) {
             if (words.isOwn(NOT)) {
-                if (!takeOpening(open) || !readFact(open + 1)) {
+                if (!takeOpening(true, open) || !readFact(open + 1)) {
                     return false;
                 }
                 town.addCode(NOT, 0);
                 return true;
             }
             if (words.isSign('[')) {
-                return takeOpening(open) && readTest(open + 1) && takeSign(']');
+                return takeOpening(true, open) && readTest(open + 1) && takeSign(']');
             }
             if (words.isOwn(ALL)) {
                 town.addCode(Sums.NUMBER, 1);
@@ -1175,7 +1173,10 @@ public final class GreyRoute {
         }
 
         private static int limited(long result) {
-            return (int) Math.max(-RESULT_LIMIT, Math.min(RESULT_LIMIT, result));
+            if (result > RESULT_LIMIT) {
+                return RESULT_LIMIT;
+            }
+            return result < -RESULT_LIMIT ? -RESULT_LIMIT : (int) result;
         }
     }
 

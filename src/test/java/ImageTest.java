@@ -12,7 +12,6 @@ public final class ImageTest {
         refused();
         newObject();
         status();
-        readme();
         Bench.finish();
     }
 
@@ -200,15 +199,4 @@ public final class ImageTest {
     }
 
     /** The run that README.md shows. */
-    private static void readme() {
-        GreyRoute x = new GreyRoute();
-        x.feed(1886151011, 1696620859, 1886151011, 1696621115, 1937011301);
-        x.feed(1702109281, 544501536, 1646293089, 1667592992, 926643060);
-        x.feed(1701847137, 543584114, 540228467, 1952804896, 1646290543);
-        x.feed(1914712123, 0, 0, 0, 0);
-        Bench.due("end(64)", x.end(64), true);
-        Bench.due("town()", x.town(), 5);
-        Bench.due("year(1)", x.year(1), 10);
-        Bench.due("years(1)", x.years(1), 10);
-    }
 }
